@@ -366,6 +366,11 @@ public final class PromiseTest {
         x.undo();
         due("undo after an undone change", x.reading(0), 27);
         due("undo is no change", x.told(8), 6);
+        for (int left = 5; left >= 0; left--) {
+            due("undo to the end, left " + left, x.undo(), left);
+            due("undo to the end: reading", x.reading(0), 21 + left);
+        }
+        due("undo behind the end", x.undo(), STATE);
     }
 
     private static void told() {
@@ -398,6 +403,9 @@ public final class PromiseTest {
         x = of(-5, -3, -4);
         due("told(2) below 0", x.told(2), -5);
         due("told(3) below 0", x.told(3), -3);
+        due("told(1) without gaps", x.told(1), 3);
+        due("told(6) of three", x.told(6), 1);
+        due("told(3) at the start", of(9, 1).told(3), 9);
         due("told(4) without gaps", x.told(4), 0);
         due("told(5) without gaps", x.told(5), 0);
     }
@@ -569,6 +577,7 @@ public final class PromiseTest {
         due("noise at 2 B = 3 A", of(0, 0, 1, 2, 4).noise(1), 2);
         due("noise at B = 3 A", of(0, 0, 0, 1, 2).noise(1), 3);
         due("noise above", of(0, 0, 1, 4, 8).noise(1), 4);
+        due("noise at 8 B = 4 A", of(0, 0, -1, 0, 0).noise(1), 1);
         due("noise with B of 0", of(0, 1, 0, 1, 0).noise(1), 0);
         StabilityAnalyzer x = of(0, 0, 1, 2, 4);
         due("noise without B", x.noise(2), NONE);
@@ -602,6 +611,13 @@ public final class PromiseTest {
         }
         due("noise of an impulse", x.noise(2), 0);
         due("freedom of an impulse", x.freedom(2), 61 * 64 / (2 * 62));
+        // A step and a bend far off it: A = 10 / 480 and B = 52 / 1792 at m = 2 and 4.
+        x = new StabilityAnalyzer();
+        for (int t = 0; t < 64; t++) {
+            x.add((t < 16 ? 0 : 1) + Math.max(0, t - 40));
+        }
+        due("noise of a step and a bend", x.noise(2), 2);
+        due("freedom of a step and a bend", x.freedom(2), 5 * 60 * 60 / (4 * 66));
         due("freedom without a kind", of(0, 1, 2, 3, 4).freedom(1), NONE);
         due("freedom without readings", new StabilityAnalyzer().freedom(15), NONE);
         for (int wrong : new int[] {0, -1, 16, LEAST, MOST}) {
