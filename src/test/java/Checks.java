@@ -23,6 +23,10 @@ final class Checks {
         return wrong;
     }
 
+    int made() {
+        return made;
+    }
+
     void close() {
         System.out.println(made + " checks, " + wrong + " wrong");
         if (wrong != 0 || made == 0) {
